@@ -643,18 +643,10 @@ public final class RightsHouse {
             while (from < end && source.bytes[from] == ' ') {
                 from++;
             }
-            next = from;
-            token = signAt(from);
-            if (token == WORD || token == WHOLE) {
-                takeRun(token == WORD ? LONGEST_WORD : LONGEST_WHOLE);
-            } else if (token != AT_END) {
-                next = from + 1;
-            }
-        }
-
-        void takeRun(int longest) {
-            int kind = token;
-            while (next < end && signAt(next) == kind) {
+            int kind = signAt(from);
+            int longest = kind == WORD ? LONGEST_WORD : kind == WHOLE ? LONGEST_WHOLE : 1;
+            next = kind == AT_END ? from : from + 1;
+            while (longest > 1 && next < end && signAt(next) == kind) {
                 next++;
             }
             token = next - from <= longest ? kind : NO_TOKEN;

@@ -17,6 +17,8 @@ public final class TellingTest {
         CHECKS.due("new: cured(0)", x.cured(0), -1);
         CHECKS.due("new: way(0, 0)", x.way(0, 0), -2);
         CHECKS.noStep("new: step(0)", x, 0);
+        x.part(0);
+        CHECKS.due("asked(0) of a first part behind other calls", x.asked(0), 1);
     }
 
     private static void parts() {

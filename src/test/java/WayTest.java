@@ -34,6 +34,8 @@ public final class WayTest {
         way("as short: the first get, then the first let", x, 0, 1, 4, 0, 3);
         Checks.lines(x, 0, "get 0 to a; let b from a; let c from b; put c by 1; get 0 to c");
         way("a later get that is nearer", x, 0, 1, 4, 3);
+        Checks.lines(x, 0, "get 0 to a; let b from a; let c from a; let c from b; put c by 1");
+        way("an earlier let that is a way round", x, 0, 1, 0, 2, 4);
         Checks.lines(x, 0, "get 0 to a; let c from e,a,b; let b from a; put b by 1; put c by 1; put c by 1");
         way("the first put of as good ones", x, 0, 1, 0, 1, 4);
     }
