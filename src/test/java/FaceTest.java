@@ -1,12 +1,17 @@
+import java.io.IOException;
 import java.lang.reflect.Constructor;
 import java.lang.reflect.Field;
 import java.lang.reflect.Method;
 import java.lang.reflect.Modifier;
+import java.nio.charset.StandardCharsets;
+import java.nio.file.Files;
+import java.nio.file.Path;
 import java.util.Arrays;
+import java.util.List;
 import java.util.Set;
 import java.util.TreeSet;
 
-/** The public face is the document's and nothing more; fields and helpers keep to rules 1, 5 and 11. */
+/** The public face is the document's and nothing more; fields, helpers and text keep to what of the rules can be seen. */
 public final class FaceTest {
     private static final Checks CHECKS = new Checks();
     private static final String FACE = "part(int)int grant(int,int)boolean feed(int,int,int,int,int)int lines(int,int)int "
@@ -66,9 +71,45 @@ public final class FaceTest {
         CHECKS.due("at most 12 classes", RightsHouse.class.getDeclaredClasses().length < 12, true);
     }
 
-    public static void main(String[] args) {
+    private static void text() throws IOException {
+        List<String> lines = Files.readAllLines(Path.of("src/main/java/RightsHouse.java"), StandardCharsets.US_ASCII);
+        String[] refused = {"->", "::", "catch", "try ", "finally", "synchronized", "assert ", "Exact(", "package ", "hashCode",
+            "toString", "System.out", "random", "Thread", "Time", "static {", "long ", "double ", "float "};
+        int imports = 0;
+        int throwing = 0;
+        for (int i = 0; i < lines.size(); i++) {
+            String line = lines.get(i);
+            imports += line.startsWith("import ") ? 1 : 0;
+            throwing += line.contains("throw ") ? 1 : 0;
+            for (String words : refused) {
+                boolean isComment = line.trim().startsWith("*") || line.trim().startsWith("/");
+                CHECKS.due("line " + (i + 1) + " has '" + words + "'", line.contains(words) && !isComment, false);
+            }
+        }
+        CHECKS.due("imports", imports, 2);
+        CHECKS.due("throws written out", throwing, 1);
+        shortMethods(lines, "    ");
+        shortMethods(lines, "        ");
+    }
+
+    /** Of methods that stand at this depth, from the line that opens each to the brace below it. */
+    private static void shortMethods(List<String> lines, String depth) {
+        int start = -1;
+        for (int i = 0; i < lines.size(); i++) {
+            if (lines.get(i).matches(depth + "\\w.*\\) (throws \\w+ )?\\{")) {
+                start = i;
+            }
+            if (lines.get(i).equals(depth + "}") && start >= 0) {
+                CHECKS.due("the method of line " + (start + 1) + " is short", i - start < 60, true);
+                start = -1;
+            }
+        }
+    }
+
+    public static void main(String[] args) throws IOException {
         face();
         inside();
+        text();
         CHECKS.end();
     }
 }
