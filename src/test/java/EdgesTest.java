@@ -14,6 +14,14 @@ public final class EdgesTest {
         return x;
     }
 
+    private static void constant() {
+        CHECKS.about("The constants: `NONE = -1`: There is none; refused");
+        CHECKS.due("NONE", RightsHouse.NONE, -1);
+        RightsHouse x = new RightsHouse();
+        CHECKS.due("what isn't there", x.wrong(0), RightsHouse.NONE);
+        CHECKS.due("what is refused", x.part(-1), RightsHouse.NONE);
+    }
+
     private static void newObject() {
         CHECKS.about("1: No PARTS");
         RightsHouse x = new RightsHouse();
@@ -731,6 +739,7 @@ public final class EdgesTest {
     }
 
     public static void main(String[] args) {
+        constant();
         newObject();
         part();
         grant();

@@ -88,12 +88,36 @@ public final class WayTest {
         CHECKS.noStep("behind it", x, length);
     }
 
+    /** Through all names and all results of all parts: up by results to part 9, back by what they are asked with. */
+    private static void everyPlaceOnce() {
+        RightsHouse x = new RightsHouse();
+        for (int part = 0; part < 10; part++) {
+            x.part(part == 0 ? 3 : 0);
+        }
+        Checks.lines(x, 0, "get 0 to b;let c from b;let d from c;let e from d;let f from e;let g from f;let h from g;result h;"
+            + "ask 9 with a to b;put a by 1");
+        for (int part = 1; part < 9; part++) {
+            Checks.lines(x, part, "ask " + (part - 1) + " with h to b;let c from b;let d from c;let e from d;let f from e;"
+                + "let g from f;result g;let h from a");
+        }
+        Checks.lines(x, 9, "ask 8 with a to b;let c from b;let d from c;result d;ask 9 with h to e;let f from e;let g from f;let h from g");
+        CHECKS.due("lines in all", x.count(1), 10 + 9 * 8);
+        CHECKS.due("a way through every place", x.way(0, 1), 1 + 89 + 1);
+        int[] places = {0, 7, 8, 9, 14, 15, 57, 63, 64, 67, 68, 69, 71, 72, 73, 74, 75, 76, 88, 89, 90};
+        int[] steps = {0, 7, 100, 101, 106, 200, 800, 806, 900, 903, 904, 905, 907, 904, 900, 807, 800, 707, 107, 100, 9};
+        for (int i = 0; i < places.length; i++) {
+            CHECKS.due("step(" + places[i] + ")", Checks.step(x, places[i]), steps[i]);
+        }
+        CHECKS.noStep("step(91)", x, 91);
+    }
+
     public static void main(String[] args) {
         numbers();
         shortestAndFirst();
         asksAndResults();
         washesAndUnasked();
         theLongest();
+        everyPlaceOnce();
         CHECKS.end();
     }
 }
