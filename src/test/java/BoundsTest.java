@@ -40,6 +40,33 @@ public final class BoundsTest {
         CHECKS.due("count(1) behind it", x.count(1), 120);
     }
 
+    /** Every part has every line, and most lines are the widest lets: what comes by the last ones comes through all. */
+    private static void fullHouse() {
+        CHECKS.about("I: PARTS 10, of each 12 LINES, at once");
+        RightsHouse x = new RightsHouse();
+        for (int part = 0; part < 10; part++) {
+            x.part(part == 0 ? 1 : part == 9 ? 2 : 0);
+        }
+        String wide = "let b from c,d,e,f;";
+        String on = "let h from a,b,c,d";
+        CHECKS.due("lines of part 0", Checks.lines(x, 0, "get 0 to a;ask 1 with h to g;" + wide.repeat(9) + on), 12);
+        for (int part = 1; part < 9; part++) {
+            int read = Checks.lines(x, part, "ask " + (part + 1) + " with h to g;" + wide.repeat(10) + on);
+            CHECKS.due("lines of part " + part, read, 12);
+        }
+        CHECKS.due("lines of part 9", Checks.lines(x, 9, wide.repeat(10) + on + ";put h by 1"), 12);
+        CHECKS.due("count(1)", x.count(1), 120);
+        for (int part = 0; part < 10; part++) {
+            CHECKS.due("holds(" + part + ", a)", x.holds(part, 0), 1);
+            CHECKS.due("holds(" + part + ", b)", x.holds(part, 1), 0);
+            CHECKS.due("holds(" + part + ", h)", x.holds(part, 7), 1);
+        }
+        CHECKS.due("door(1)", x.door(1), 1);
+        CHECKS.taken("way(0, 1)", x, x.way(0, 1), 21);
+        CHECKS.steps("way(0, 1)", x, 0, 11, 1, 111, 100, 211, 200, 311, 300, 411, 400, 511, 500, 611, 600, 711, 700, 811, 800,
+            910, 911);
+    }
+
     private static void sixteenRights() {
         CHECKS.about("I: RIGHTS 16 (0 .. 15)");
         RightsHouse x = Checks.house(LAST, "get 0 to a;get 15 to b;put a by 15;put b by 0");
@@ -380,6 +407,7 @@ public final class BoundsTest {
     public static void main(String[] args) {
         tenParts();
         twelveLines();
+        fullHouse();
         sixteenRights();
         eightNames();
         askedWithA();

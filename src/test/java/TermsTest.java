@@ -19,6 +19,10 @@ public final class TermsTest {
         Checks.lines(x, 9, "result b;let b from a;get 0 to a");
         CHECKS.due("result(0) through ten parts", x.result(0), 1);
         CHECKS.due("holds(0, c)", x.holds(0, 2), 1);
+        x = Checks.house(3, "get 0 to a;get 1 to b;let c from b;let b from a");
+        CHECKS.due("holds(0, c): each let brings one at once, the first one another later", x.holds(0, 2), 3);
+        x = Checks.house(3, "get 0 to a;get 1 to b;ask 0 with b to d;result c;let c from a,b;let a from b");
+        CHECKS.due("holds(0, d): by a result that has one at once, another later", x.holds(0, 3), 3);
     }
 
     private static void leastSets() {
@@ -221,6 +225,18 @@ public final class TermsTest {
         way("the last places of the last part", x, 0, 1, 910, 911);
         Checks.lines(x, 9, "result a;".repeat(9) + "put c by 1;let c from b;get 0 to b");
         way("a let of the last part", x, 0, 1, 911, 910, 909);
+    }
+
+    private static void nearestGets() {
+        CHECKS.about("III: the fewest LINES through which the SECRET comes from a get to a put");
+        RightsHouse x = Checks.house(3, "get 0 to a;put a by 1;get 0 to b;let a from b");
+        way("the first of two gets is nearer", x, 0, 1, 0, 1);
+        Checks.lines(x, 0, "get 0 to b;let a from b;put a by 1;get 0 to a");
+        way("the second of two gets is nearer", x, 0, 1, 3, 2);
+        Checks.lines(x, 0, "get 0 to b;let a from b;get 0 to a;put a by 1;get 0 to c;let b from c");
+        way("the second of three gets is nearest", x, 0, 1, 2, 3);
+        Checks.lines(x, 0, "get 0 to c;get 0 to a;put a by 1;get 0 to d");
+        way("other gets don't come there", x, 0, 1, 1, 2);
     }
 
     private static void firstWays() {
@@ -431,6 +447,7 @@ public final class TermsTest {
         leaks();
         misuseAndService();
         ways();
+        nearestGets();
         firstWays();
         needs();
         helped();
