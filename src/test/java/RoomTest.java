@@ -12,7 +12,7 @@ public final class RoomTest {
     /** Calls of every kind, all that a run may have, and most of those that have much to do. */
     private static void everyCall(RightsHouse x, int made) {
         int i = 0;
-        for (int calls = made; calls + 25 <= CALLS; calls += 25) {
+        for (int calls = made; calls + 26 <= CALLS; calls += 26) {
             x.feed(0x67657430, 0x746F2061, 0x3B707574, 0x20612062, 0x79203020);
             x.lines(i % 6, i % 3 == 0 ? 19 : 20);
             x.line(i, x.fault(), x.where());
